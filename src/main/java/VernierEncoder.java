@@ -598,7 +598,6 @@ public final class VernierEncoder {
         private void judge(State state, Finding finding) {
             counter = state.counter;
             apartInRow = state.apartInRow;
-            place = NONE;
             refusal = firstRefusal(state, finding);
         }
 
