@@ -69,6 +69,24 @@ public final class FaceTest {
             due.holds(inside.getName() + " is static", Modifier.isStatic(inside.getModifiers()));
             due.holds(inside.getName() + " is not public",
                     (inside.getModifiers() & (Modifier.PUBLIC | Modifier.PROTECTED)) == 0);
+            classInside(inside);
+        }
+    }
+
+    private static void classInside(Class<?> inside) {
+        int fields = 0;
+        for (Field field : inside.getDeclaredFields()) {
+            fields += Modifier.isStatic(field.getModifiers()) ? 0 : 1;
+            due.holds(field + " is private", Modifier.isPrivate(field.getModifiers()));
+        }
+        due.holds(inside.getName() + " has few fields", fields <= 20);
+        for (Method method : inside.getDeclaredMethods()) {
+            due.holds(method + " is private", Modifier.isPrivate(method.getModifiers()));
+            due.holds(method + " has few parameters", method.getParameterCount() <= 7);
+            for (String open : METHODS) {
+                due.holds(method + " has a name of its own",
+                        !open.substring(0, open.indexOf(' ')).equals(method.getName()));
+            }
         }
     }
 }

@@ -98,8 +98,8 @@ public final class RandomRunsTest {
             case "brownout": return new int[] {near(r, 1, 9)};
             case "charge": return new int[] {r.nextBoolean() ? near(r, 0, 999) : near(r, 0, 5)};
             case "count": return new int[] {near(r, 0, r.nextBoolean() ? 11 : 23)};
-            case "disk": return new int[] {near(r, 0, 2), near(r, 0, 7), r.nextBoolean() ? near(r, -9, 9) : near(r, -2, 2)};
-            case "noise": return new int[] {near(r, 0, 2), r.nextBoolean() ? near(r, -9, 9) : near(r, -2, 2)};
+            case "disk": return new int[] {near(r, 0, 2), near(r, 0, 7), small(r)};
+            case "noise": return new int[] {near(r, 0, 2), small(r)};
             case "set": return setting(r);
             case "reading": return new int[] {near(r, 0, 2)};
             case "found": return readings(r);
@@ -124,6 +124,10 @@ public final class RandomRunsTest {
             case 4: return r.nextInt(8) == 0 ? r.nextInt() : least;
             default: return least + r.nextInt(greatest - least + 1);
         }
+    }
+
+    private static int small(Random r) {
+        return r.nextBoolean() ? near(r, -9, 9) : near(r, -2, 2);
     }
 
     private static int[] setting(Random r) {

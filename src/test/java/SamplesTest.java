@@ -54,26 +54,11 @@ public final class SamplesTest {
         due.is("undo()", x.undo(), 3);
     }
 
-    /** A shaft that stands behind or ahead of its counter by quarters that were not counted. */
-    private static VernierEncoder uncounted(int counted, int quarters) {
-        VernierEncoder x = new VernierEncoder();
-        for (int turned = 0; turned < counted; turned++) {
-            x.turn(1020);
-        }
-        x.power(0);
-        x.charge(0);
-        for (int turned = 0; turned < Math.abs(quarters); turned++) {
-            x.turn(quarters < 0 ? -1020 : 1020);
-        }
-        x.power(1);
-        return x;
-    }
-
     private static void counterFits() {
         int[] reasons = {0, 0, 2, 0, 0, 0, 2, 0, 0};
         int[] values = {8, 9, 8, 7, 8, 9, 8, 7, 8};
         for (int quarters = -4; quarters <= 4; quarters++) {
-            VernierEncoder x = uncounted(8, quarters);
+            VernierEncoder x = Prepared.uncounted(8, quarters);
             due.is("reason() at " + quarters, x.reason(), reasons[quarters + 4]);
             due.is("the counter stays at " + quarters, x.count(2), 8);
             int value = values[quarters + 4];
@@ -84,10 +69,10 @@ public final class SamplesTest {
     }
 
     private static void counterFitsAcrossItsEnds() {
-        VernierEncoder x = uncounted(0, 3);
+        VernierEncoder x = Prepared.uncounted(0, 3);
         due.is("sample() below 0", x.sample(), 15 * 4080 + 3060);
         due.is("the counter", x.count(2), 63);
-        x = uncounted(63, -3);
+        x = Prepared.uncounted(63, -3);
         due.is("sample() above 63", x.sample(), 0);
         due.is("the counter", x.count(2), 0);
     }

@@ -15,20 +15,8 @@ public final class TextsTest {
         due.end();
     }
 
-    private static VernierEncoder typed(String text) {
-        VernierEncoder x = new VernierEncoder();
-        write(x, text);
-        return x;
-    }
-
-    private static void write(VernierEncoder x, String text) {
-        for (int index = 0; index < text.length(); index++) {
-            x.type(text.charAt(index));
-        }
-    }
-
     private static void faultIs(String text, int position, int reason) {
-        VernierEncoder x = typed(text);
+        VernierEncoder x = Prepared.typed(text);
         due.is("fault(0) of " + text, x.fault(0), position);
         due.is("fault(1) of " + text, x.fault(1), reason);
         if (reason != -4) {
@@ -55,21 +43,21 @@ public final class TextsTest {
     }
 
     private static void clearText() {
-        VernierEncoder x = typed("abc");
+        VernierEncoder x = Prepared.typed("abc");
         due.is("clearText()", x.clearText(), 3);
         due.is("clearText() again", x.clearText(), 0);
         due.is("fault(0)", x.fault(0), -4);
         due.is("type(48)", x.type(48), 1);
         due.is("an old character does not count", x.fault(1), 1);
-        VernierEncoder y = typed("00+1;");
+        VernierEncoder y = Prepared.typed("00+1;");
         y.clearText();
-        write(y, "00+1");
+        Prepared.write(y, "00+1");
         due.is("an old end does not count", y.fault(0), 0);
         due.is("states", y.count(10), 0);
     }
 
     private static void faultOutOfRange() {
-        VernierEncoder x = typed("x");
+        VernierEncoder x = Prepared.typed("x");
         due.is("fault(-1)", x.fault(-1), -1);
         due.is("fault(2)", x.fault(2), -1);
         due.is("fault(2) of an empty text", new VernierEncoder().fault(2), -1);
@@ -128,7 +116,7 @@ public final class TextsTest {
     }
 
     private static void load() {
-        VernierEncoder x = typed("00+1;17-20;25+08;26-0;");
+        VernierEncoder x = Prepared.typed("00+1;17-20;25+08;26-0;");
         due.is("load()", x.load(), 4);
         due.is("correction(0, 0)", x.correction(0, 0), 101);
         due.is("correction(1, 7)", x.correction(1, 7), 80);
@@ -141,14 +129,14 @@ public final class TextsTest {
         due.is("undo()", x.undo(), 1);
         due.is("undo()", x.undo(), 0);
         due.is("count(9) undone", x.count(9), 0);
-        VernierEncoder full = typed("00+1;01+2;02+3;03+4;04+5;05+6;06+7;07+8;10+9;11-1;12-2;13-3;");
+        VernierEncoder full = Prepared.typed("00+1;01+2;02+3;03+4;04+5;05+6;06+7;07+8;10+9;11-1;12-2;13-3;");
         due.is("load() of twelve", full.load(), 12);
         due.is("count(9)", full.count(9), 12);
         due.is("correction(1, 3)", full.correction(1, 3), 97);
     }
 
     private static void loadReplacesTheTable() {
-        VernierEncoder x = typed("11+2;");
+        VernierEncoder x = Prepared.typed("11+2;");
         x.correct(0, 0, 5);
         x.correct(1, 1, 5);
         x.correct(2, 7, 5);
@@ -159,7 +147,7 @@ public final class TextsTest {
         x.clearText();
         due.is("load() of an empty text", x.load(), 0);
         due.is("count(9)", x.count(9), 0);
-        write(x, "11+2;11");
+        Prepared.write(x, "11+2;11");
         due.is("load() with a fault", x.load(), -2);
         due.is("the table stays", x.count(9), 0);
     }
